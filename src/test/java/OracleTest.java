@@ -7,7 +7,8 @@ import java.util.Map;
 
 /**
  * Random runs of calls, each answer held against a second, slow reading of the document (Model), and
- * small fights held against the playing of every single way there is (Every).
+ * so are fights of many states; small fights are held against the playing of every single way there
+ * is (every).
  */
 public final class OracleTest {
     private static int wrong = 0;
@@ -1113,6 +1114,47 @@ public final class OracleTest {
         }
     }
 
+    /** A fight of 16 to 20 slots and many states, about as many as there may be. */
+    private static void wideFight(int seed) {
+        Dice d = new Dice(seed);
+        FairFight x = new FairFight();
+        Model m = new Model();
+        List<String> run = new ArrayList<>();
+        for (int i = 0; i < 5; i++) {
+            int[] n = {d.oneIn(3) ? d.below(3) : 0, d.from(8, 20), d.from(1, 5), d.from(1, 5),
+                d.oneIn(4) ? d.below(6) : 0, d.below(10)};
+            run.add(Arrays.toString(n));
+            x.fighter(n[0], n[1], n[2], n[3], n[4], n[5]);
+            m.fighter(n);
+        }
+        int heroes = d.from(1, 2);
+        int last = d.oneIn(2) ? 4 : -1;
+        for (int s = 0; s < 2; s++) {
+            int b = s == 0 && heroes == 1 ? -1 : 2 * s + 1;
+            x.side(s, 2 * s, b, s == 0 ? -1 : last);
+            m.side(s, 2 * s, b, s == 0 ? -1 : last);
+        }
+        run.add("heroes " + heroes + ", last foe " + last);
+        int size = heroes + (last == -1 ? 2 : 3);
+        int rounds = Math.min(6, 22 / size);
+        int aim = d.below(2);
+        x.laws(rounds, aim, -1);
+        m.laws(rounds, aim, -1);
+        run.add("laws " + rounds + " " + aim);
+        due(run, "states()", x.states(), m.states());
+        due(run, "chance()", x.chance(), m.chance());
+        for (int end = 0; end < 3; end++) {
+            due(run, "ways(" + end + ")", x.ways(end), m.ways(end));
+        }
+        for (int s = 0; s < 2; s++) {
+            for (int life = 0; life <= 20; life++) {
+                int up = life == 0 ? 0 : 1;
+                due(run, "left(" + s + ",0," + life + "," + up + ")", x.left(s, 0, life, up),
+                    m.left(s, 0, life, up));
+            }
+        }
+    }
+
     public static void main(String[] args) {
         int runs = args.length > 0 ? Integer.parseInt(args[0]) : 400;
         int first = args.length > 1 ? Integer.parseInt(args[1]) : 1;
@@ -1121,6 +1163,9 @@ public final class OracleTest {
         }
         for (int seed = first; seed < first + runs / 4; seed++) {
             smallFight(seed);
+        }
+        for (int seed = first; seed < first + runs / 4; seed++) {
+            wideFight(seed);
         }
         if (args.length > 0) {
             System.out.println(new java.util.TreeMap<>(kinds));
