@@ -866,6 +866,12 @@ public final class BoundaryTest {
         due("30 slots, nobody there",
             field(6, row(IDLE, IDLE), row(IDLE, IDLE, IDLE)).without(2), BAD);
         due("24 slots, 18 without one", field(6, row(IDLE, IDLE), row(IDLE, IDLE)).without(1), 0);
+        FairFight v = tooBroad();
+        add(v, IDLE);
+        v.side(0, 0, 1, 5);
+        due("401 states without the third", v.without(2), WIDE);
+        v.side(0, 0, 5, NONE);
+        due("of two, the other one is not wide", v.without(0), 0);
         says("17: if nobody, HEROES, FOES (-1, 0, 1) were SURPRISED");
         FairFight w = duel(1, SURE, SURE);
         due("nobody", w.surprised(-1), MILLION);
@@ -1211,6 +1217,18 @@ public final class BoundaryTest {
         due("another wish", y.wish(500000, 500000), 0);
         due("has its own", y.band(0), BAD);
         says("24: those that are WIDE do not count");
+        FairFight w = field(5, row(of(0, 20, 1, 7, 0, 9), of(0, 12, 5, 1, 0, 3)),
+            row(of(0, 17, 2, 3, 0, 6), of(0, 13, 5, 5, 0, 9)));
+        due("20 slots, but too many states", w.chance(), WIDE);
+        int bands = w.wish(0, MILLION);
+        int tooWide = 0;
+        int alone = 0;
+        for (int k = 0; k < bands; k++) {
+            tooWide += w.band(k) == 16 * 2 + 3 ? 1 : 0;
+            alone += w.band(k) >= 256 ? 1 : 0;
+        }
+        due("that band", tooWide, 0);
+        due("bands of one", alone, 4);
         FairFight x = field(6, row(IDLE, IDLE), row());
         due("18 slots alone, 24 by two", x.wish(0, 0), 2);
         due("alone", x.band(0), 256);
